@@ -1,0 +1,71 @@
+import java.io.IOException;
+import java.nio.file.Files;
+import java.nio.file.Path;
+import java.util.List;
+import java.util.regex.Matcher;
+import java.util.regex.Pattern;
+
+/** The rules of ../shared/LANGUAGE.md that the source shows without being run. */
+public final class LanguageTest {
+    private static final Checks CHECKS = new Checks("LanguageTest");
+    private static final List<String> FACE = List.of("poly", "make", "drop", "number", "of", "value", "chain",
+        "changes", "roots", "within", "bound", "fence", "times", "shared", "sign", "signs", "which", "fraction",
+        "feed", "reads", "prints", "paper", "judge", "lots", "list", "set", "get", "into", "image", "back", "count");
+
+    public static void main(String[] args) throws IOException {
+        String source = Files.readString(Path.of("src/main/java/RootFence.java"));
+        String code = source.replaceAll("(?s)/\\*.*?\\*/", "").replaceAll("//[^\n]*", "")
+            .replaceAll("\"[^\"\n]*\"", "\"\"");
+        words(code);
+        face(code);
+        sizes(source);
+        CHECKS.end();
+    }
+
+    private static int many(String pattern, String code) {
+        Matcher matcher = Pattern.compile(pattern).matcher(code);
+        int many = 0;
+        while (matcher.find()) {
+            many++;
+        }
+        return many;
+    }
+
+    private static void words(String code) {
+        String[] none = {"\\bthrow\\b", "\\bthrows\\b", "\\btry\\b", "\\bcatch\\b", "\\bassert\\b", "\\bsynchronized\\b",
+            "->", "::", "\\bimport\\b", "\\bpackage\\b", "\\bprotected\\b", "\\bobject\\b", "\\bSystem\\.(?!arraycopy)",
+            "Exact\\b", "\\bRandom\\b", "\\bThread\\b", "\\bnew \\w+\\([^)]*\\) *\\{", "\" *\\+", "\\+ *\""};
+        for (String word : none) {
+            CHECKS.due("how many " + word, many(word, code), 0);
+        }
+    }
+
+    private static void face(String code) {
+        CHECKS.due("public ones: the class, 2 rows of constants, the constructor, the calls",
+            many("\\bpublic\\b", code), 4 + FACE.size());
+        for (String name : FACE) {
+            CHECKS.due("public " + name, many("(?m)^    public (int|long) " + name + "\\(", code), 1);
+            CHECKS.due("others named " + name, many("(?m)^ {4,}(?!public|return)[\\w\\[\\] ]*\\w " + name + "\\([^;]*\\{$", code), 0);
+        }
+        CHECKS.due("members without a modifier", many("(?m)^    (?!public|private|\\}|/|\\*| )\\S", code), 0);
+        CHECKS.due("classes at most", Math.max(12, many("\\bclass \\w+ \\{", code)), 12);
+    }
+
+    private static void sizes(String source) {
+        String[] lines = source.split("\n");
+        int begin = -1;
+        String indent = "";
+        for (int i = 0; i < lines.length; i++) {
+            Matcher opened = Pattern.compile("^( {4}| {8})(?! )[\\w\\[\\] ]+\\([^;]*\\) \\{$").matcher(lines[i]);
+            if (begin < 0 && opened.find()) {
+                begin = i;
+                indent = opened.group(1);
+                CHECKS.due("parameters at most 7: " + lines[i], Math.max(6, many(",", lines[i])), 6);
+            } else if (begin >= 0 && lines[i].equals(indent + "}")) {
+                CHECKS.due("lines at most 60: " + lines[begin], Math.max(60, i - begin + 1), 60);
+                begin = -1;
+            }
+            CHECKS.due("signs below 128, line " + (i + 1), many("[^ -~]", lines[i]), 0);
+        }
+    }
+}
