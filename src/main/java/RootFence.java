@@ -495,10 +495,10 @@ public final class RootFence {
         return u < -POINT_END || u > POINT_END || v < 1 || v > POINT_END;
     }
 
-    /** Q's sign at the k-th root of what `chain` has; `second` has Q's chain. */
+    /** Q's sign at the k-th root of what `chain` has, whose FENCE by 0 stands; `second` has Q's chain. */
     private long signOutside(int k, Poly q) {
         for (int h = 0; h <= FINEST; h++) {
-            if (!fence.find(chain, k, h)) {
+            if (!fence.narrow(chain, k, h)) {
                 return NO;
             }
             if (fence.holds(second) == 0) {
@@ -516,9 +516,10 @@ public final class RootFence {
         return third.turnsAt(fence.endU(), fence.endV()) == third.turnsAt(other.endU(), other.endV());
     }
 
+    /** Which root is the greater, from their FENCES by 0 on, which stand. */
     private long order(int i, int j) {
         for (int h = 0; h <= FINEST; h++) {
-            if (!fence.find(chain, i, h) || !other.find(second, j, h)) {
+            if (!fence.narrow(chain, i, h) || !other.narrow(second, j, h)) {
                 return NO;
             }
             if (fence.isBefore(other)) {
@@ -663,11 +664,16 @@ public final class RootFence {
             numbers[SIZE - 1] = 0;
         }
 
-        /** CLEANED; false: FULL. */
+        /** CLEANED; false: FULL. Without a call to gcd(), for calls not to go too deep. */
         boolean clean() {
             long divisor = 0;
-            for (int i = 0; i < SIZE; i++) {
-                divisor = gcd(divisor, numbers[i]);
+            for (int i = 0; i < SIZE && divisor != 1; i++) {
+                long rest = numbers[i] < 0 ? -numbers[i] : numbers[i];
+                for (int step = 0; step < 1000 && rest != 0; step++) {
+                    long less = divisor % rest;
+                    divisor = rest;
+                    rest = less;
+                }
             }
             boolean fits = true;
             for (int i = 0; i < SIZE; i++) {
@@ -998,6 +1004,8 @@ public final class RootFence {
         private final Poly slope = new Poly();
         private final Common common;
         private int length = 0;
+        private int below = 0;
+        private int above = 0;
 
         Chain(Common common) {
             this.common = common;
@@ -1041,6 +1049,8 @@ public final class RootFence {
                     members[length].turnSigns();
                 }
             }
+            below = turnsBelowAll();
+            above = turnsAboveAll();
             return fits;
         }
 
@@ -1068,7 +1078,7 @@ public final class RootFence {
             return many;
         }
 
-        int turnsBelowAll() {
+        private int turnsBelowAll() {
             int many = 0;
             for (int i = 1; i < length; i++) {
                 if (members[i - 1].signBelowAll() != members[i].signBelowAll()) {
@@ -1078,7 +1088,7 @@ public final class RootFence {
             return many;
         }
 
-        int turnsAboveAll() {
+        private int turnsAboveAll() {
             int many = 0;
             for (int i = 1; i < length; i++) {
                 if (members[i - 1].signAboveAll() != members[i].signAboveAll()) {
@@ -1088,8 +1098,18 @@ public final class RootFence {
             return many;
         }
 
+        /** CHANGES BELOW ALL. */
+        int below() {
+            return below;
+        }
+
+        /** CHANGES ABOVE ALL. */
+        int above() {
+            return above;
+        }
+
         int total() {
-            return turnsBelowAll() - turnsAboveAll();
+            return below - above;
         }
 
         boolean hasRoot(int k) {
@@ -1098,13 +1118,11 @@ public final class RootFence {
 
         /** How many roots are not above u by v. */
         int notAbove(int u, int v) {
-            return turnsBelowAll() - turnsAt(u, v);
+            return below - turnsAt(u, v);
         }
 
         /** M; 0: none. */
         int reach() {
-            int below = turnsBelowAll();
-            int above = turnsAboveAll();
             for (int m = 1; m <= FARTHEST; m *= 2) {
                 if (turnsAt(-m, 1) == below && turnsAt(m, 1) == above) {
                     return m;
@@ -1119,6 +1137,8 @@ public final class RootFence {
         private long low = 0;
         private long high = 0;
         private long parts = 1;
+        private int turnsAtLow = 0;
+        private int turnsAtHigh = 0;
 
         /** FENCE of the k-th root by h; false: FULL. */
         boolean find(Chain chain, int k, int h) {
@@ -1126,33 +1146,45 @@ public final class RootFence {
             low = -reach;
             high = reach;
             parts = 1;
-            int atLow = 0;
-            int atHigh = chain.total();
-            boolean fits = reach > 0;
+            turnsAtLow = chain.below();
+            turnsAtHigh = chain.above();
+            return reach > 0 && narrow(chain, k, h);
+        }
+
+        /** From the same root's FENCE by less on to that by h; false: FULL. */
+        boolean narrow(Chain chain, int k, int h) {
+            boolean fits = true;
             // Each round halves the width, and points with more than 1000 parts end it.
             for (int round = 0; round < 100 && fits; round++) {
-                if (atHigh - atLow <= 1 && (high - low) << h <= parts) {
+                if (turnsAtLow - turnsAtHigh <= 1 && (high - low) << h <= parts) {
                     return true;
                 }
-                if ((high - low) % 2 != 0) {
-                    low *= 2;
-                    high *= 2;
-                    parts *= 2;
-                }
-                long middle = (low + high) / 2;
-                int u = over(middle);
-                int v = under(middle);
-                fits = !badPoint(u, v);
-                int atMiddle = fits ? chain.notAbove(u, v) : 0;
-                if (k < atMiddle) {
-                    high = middle;
-                    atHigh = atMiddle;
-                } else {
-                    low = middle;
-                    atLow = atMiddle;
-                }
+                fits = halve(chain, k);
             }
             return false;
+        }
+
+        private boolean halve(Chain chain, int k) {
+            if ((high - low) % 2 != 0) {
+                low *= 2;
+                high *= 2;
+                parts *= 2;
+            }
+            long middle = (low + high) / 2;
+            int u = over(middle);
+            int v = under(middle);
+            if (badPoint(u, v)) {
+                return false;
+            }
+            int turns = chain.turnsAt(u, v);
+            if (k < chain.below() - turns) {
+                high = middle;
+                turnsAtHigh = turns;
+            } else {
+                low = middle;
+                turnsAtLow = turns;
+            }
+            return true;
         }
 
         int beginU() {
@@ -1221,16 +1253,18 @@ public final class RootFence {
             if (lowest > 0) {
                 insert(0, 1);
             }
-            for (int v = 1; v <= NUMBER_END; v++) {
-                if (p.head() % v == 0) {
-                    findOver(p, p.at(lowest), v);
+            long foot = p.at(lowest);
+            long head = p.head();
+            for (int u = 1; u <= NUMBER_END; u++) {
+                if (foot % u == 0) {
+                    findUnder(p, u, head);
                 }
             }
         }
 
-        private void findOver(Poly p, long foot, int v) {
-            for (int u = 1; u <= NUMBER_END; u++) {
-                if (foot % u == 0 && gcd(u, v) == 1) {
+        private void findUnder(Poly p, int u, long head) {
+            for (int v = 1; v <= NUMBER_END; v++) {
+                if (head % v == 0 && gcd(u, v) == 1) {
                     if (p.worth(u, v) == 0) {
                         insert(u, v);
                     }

@@ -52,10 +52,11 @@ public final class PairsTest {
         CHECKS.due("Q beyond", x.sign(0, 0, 5), Checks.NO);
         CHECKS.due("no fence", x.sign(7, 0, 2), Checks.NO);
         // 29 by 41 is below the root of 1 by 2 by less than 1 by 2400.
-        RootFence near = Checks.with("2x^2-1", "41x-29", "12x-17");
+        RootFence near = Checks.with("2x^2-1", "41x-29", "12x-17", "31x-22");
         CHECKS.due("too near", near.sign(0, 1, 1), Checks.NO);
         CHECKS.due("far on the other side", near.sign(0, 0, 1), -1);
         CHECKS.due("the number below 17 by 12", near.sign(0, 1, 2), -1);
+        CHECKS.due("by the fence by 9 alone", near.sign(0, 1, 3), -1);
     }
 
     private static void signs() {
@@ -101,11 +102,15 @@ public final class PairsTest {
     }
 
     private static void whichNear() {
-        RootFence x = Checks.with("2x^2-1", "41x-29", "12x-17", "10x-7", "x", "998x^2-999x");
+        RootFence x = Checks.with("2x^2-1", "41x-29", "12x-17", "10x-7", "x", "998x^2-999x", "31x-22", "999x-1");
         CHECKS.due("too near", x.which(0, 1, 1, 0), Checks.NO);
         CHECKS.due("near", x.which(0, 1, 3, 0), 1);
         CHECKS.due("near", x.which(3, 0, 0, 1), -1);
-        CHECKS.due("fences that touch", x.which(4, 0, 5, 1), -1);
+        CHECKS.due("0 and more than 1", x.which(4, 0, 5, 1), -1);
+        CHECKS.due("by the fences by 9 alone", x.which(0, 1, 6, 0), -1);
+        CHECKS.due("by the fences by 9 alone", x.which(6, 0, 0, 1), 1);
+        CHECKS.due("fences that touch", x.which(4, 0, 7, 0), -1);
+        CHECKS.due("fences that touch", x.which(7, 0, 4, 0), 1);
         CHECKS.due("0 and 0", x.which(4, 0, 5, 0), 0);
     }
 

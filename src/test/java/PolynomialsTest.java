@@ -110,6 +110,13 @@ public final class PolynomialsTest {
         CHECKS.due("part of a number above 1000000", wide.make(11, 2, 1), Checks.FULL);
         CHECKS.due("common of a number above 1000000", wide.make(3, 2, 0), Checks.FULL);
         CHECKS.due("count", wide.count(0), 5);
+        RootFence edge = Checks.with("7x^2+997x+1", "999x-571", "-7x^2-997x-1", "4x^2+999x+1", "999x-500", "-4x^2-999x-1");
+        CHECKS.due("rest by way of 1000000", edge.make(10, 0, 1), 6);
+        CHECKS.due("rest by way of -1000000", edge.make(10, 2, 1), 7);
+        CHECKS.due("rest", edge.number(7, 0), -1);
+        edge.drop();
+        CHECKS.due("rest by way of 1000001", edge.make(10, 3, 4), Checks.FULL);
+        CHECKS.due("rest by way of -1000001", edge.make(10, 5, 4), Checks.FULL);
     }
 
     private static void makeWrong() {

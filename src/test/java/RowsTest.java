@@ -87,6 +87,7 @@ public final class RowsTest {
                 for (int m = 1; m <= 9; m++) {
                     String name = "lots(12, " + degree + ", " + m + ", " + z + ")";
                     CHECKS.due(name, x.lots(12, degree, m, z), lotsByHand(12, degree, m, z));
+                    CHECKS.due("one of " + name, x.lots(1, degree, m, z), lotsByHand(1, degree, m, z));
                 }
             }
         }
