@@ -18,7 +18,11 @@ public final class ChainsTest {
     private static void chain() {
         RootFence x = Checks.with("x^3-6x^2+11x-6", "-2x^2+4x-2", "5", WIDE, "x^4-10x^2+1");
         CHECKS.due("chain(0, -1, 0)", x.chain(0, -1, 0), 4);
-        CHECKS.due("chain(0, -1, 99)", x.chain(0, -1, 99), 4);
+        for (int power : new int[] {-1, 5, 99, Integer.MIN_VALUE, Integer.MAX_VALUE}) {
+            CHECKS.due("chain(0, -1, " + power + ")", x.chain(0, -1, power), 4);
+        }
+        CHECKS.due("chain(0, min, 0)", x.chain(0, Integer.MIN_VALUE, 0), Checks.NO);
+        CHECKS.due("chain(0, max, 0)", x.chain(0, Integer.MAX_VALUE, 0), Checks.NO);
         long[][] want = {{-6, 11, -6, 1, 0}, {11, -12, 3, 0, 0}, {-2, 1, 0, 0, 0}, {1, 0, 0, 0, 0}};
         for (int k = 0; k < 4; k++) {
             for (int power = 0; power < 5; power++) {
@@ -53,6 +57,10 @@ public final class ChainsTest {
         CHECKS.due("at 2", x.changes(0, 1000, 500), 1);
         CHECKS.due("at 1000", x.changes(0, 1000, 1), 0);
         CHECKS.due("at -1000", x.changes(0, -1000, 1), 3);
+        CHECKS.due("at 1000/1000", x.changes(0, 1000, 1000), 2);
+        CHECKS.due("at 999/1000", x.changes(0, 999, 1000), 3);
+        CHECKS.due("v min", x.changes(0, 1, Integer.MIN_VALUE), Checks.BAD);
+        CHECKS.due("p -1", x.changes(-1, 1, 1), Checks.BAD);
         CHECKS.due("u 1001", x.changes(0, 1001, 1), Checks.BAD);
         CHECKS.due("u -1001", x.changes(0, -1001, 1), Checks.BAD);
         CHECKS.due("v 0", x.changes(0, 1, 0), Checks.BAD);
@@ -79,6 +87,13 @@ public final class ChainsTest {
         CHECKS.due("(1, 2)", x.within(0, 1, 1, 199, 100), 0);
         CHECKS.due("(-1000, 1000]", x.within(0, -1000, 1, 1000, 1), 3);
         CHECKS.due("(2/4, 4/4]", x.within(0, 2, 4, 4, 4), 1);
+        CHECKS.due("(999/1000, 1000/1000]", x.within(0, 999, 1000, 1000, 1000), 1);
+        CHECKS.due("(999/1000, 1000/999]", x.within(0, 999, 1000, 1000, 999), 1);
+        CHECKS.due("v -1", x.within(0, 0, -1, 1, 1), Checks.BAD);
+        CHECKS.due("v 1001", x.within(0, 0, 1001, 1, 1), Checks.BAD);
+        CHECKS.due("u min", x.within(0, Integer.MIN_VALUE, 1, 1, 1), Checks.BAD);
+        CHECKS.due("t max", x.within(0, 0, 1, Integer.MAX_VALUE, 1), Checks.BAD);
+        CHECKS.due("p -1", x.within(-1, 0, 1, 1, 1), Checks.BAD);
         CHECKS.due("alike points", x.within(0, 1, 2, 2, 4), Checks.BAD);
         CHECKS.due("the first above", x.within(0, 2, 1, 1, 1), Checks.BAD);
         CHECKS.due("u 1001", x.within(0, -1001, 1, 1, 1), Checks.BAD);

@@ -1,4 +1,7 @@
 import java.io.IOException;
+import java.lang.reflect.Field;
+import java.lang.reflect.Method;
+import java.lang.reflect.Modifier;
 import java.nio.file.Files;
 import java.nio.file.Path;
 import java.util.List;
@@ -11,6 +14,8 @@ public final class LanguageTest {
     private static final List<String> FACE = List.of("poly", "make", "drop", "number", "of", "value", "chain",
         "changes", "roots", "within", "bound", "fence", "times", "shared", "sign", "signs", "which", "fraction",
         "feed", "reads", "prints", "paper", "judge", "lots", "list", "set", "get", "into", "image", "back", "count");
+
+    private static final List<String> CONSTANTS = List.of("BAD", "NOT", "FULL", "STATE", "NO");
 
     public static void main(String[] args) throws IOException {
         String source = Files.readString(Path.of("src/main/java/RootFence.java"));
@@ -40,15 +45,37 @@ public final class LanguageTest {
         }
     }
 
+    /** Rule 1, as the compiled class shows it. */
     private static void face(String code) {
-        CHECKS.due("public ones: the class, 2 rows of constants, the constructor, the calls",
-            many("\\bpublic\\b", code), 4 + FACE.size());
+        int shown = 0;
+        for (Method method : RootFence.class.getDeclaredMethods()) {
+            if (!Modifier.isPrivate(method.getModifiers()) && !method.isSynthetic()) {
+                shown++;
+                CHECKS.due(method.getName() + " is of the face", FACE.contains(method.getName()) ? 1 : 0, 1);
+                CHECKS.due(method.getName() + " is public", Modifier.isPublic(method.getModifiers()) ? 1 : 0, 1);
+            } else {
+                CHECKS.due("private " + method.getName(), FACE.contains(method.getName()) ? 1 : 0, 0);
+            }
+        }
+        CHECKS.due("calls", shown, FACE.size());
+        int constants = 0;
+        for (Field field : RootFence.class.getDeclaredFields()) {
+            if (!Modifier.isPrivate(field.getModifiers())) {
+                constants++;
+                CHECKS.due(field.getName() + " is of the face", CONSTANTS.contains(field.getName()) ? 1 : 0, 1);
+            }
+        }
+        CHECKS.due("constants", constants, CONSTANTS.size());
+        CHECKS.due("constructors", RootFence.class.getDeclaredConstructors().length, 1);
+        CHECKS.due("public and final", Modifier.isFinal(RootFence.class.getModifiers()) ? 1 : 0, 1);
         for (String name : FACE) {
-            CHECKS.due("public " + name, many("(?m)^    public (int|long) " + name + "\\(", code), 1);
             CHECKS.due("others named " + name, many("(?m)^ {4,}(?!public|return)[\\w\\[\\] ]*\\w " + name + "\\([^;]*\\{$", code), 0);
         }
-        CHECKS.due("members without a modifier", many("(?m)^    (?!public|private|\\}|/|\\*| )\\S", code), 0);
-        CHECKS.due("classes at most", Math.max(12, many("\\bclass \\w+ \\{", code)), 12);
+        for (Class<?> inside : RootFence.class.getDeclaredClasses()) {
+            CHECKS.due(inside.getName() + " is static", Modifier.isStatic(inside.getModifiers()) ? 1 : 0, 1);
+            CHECKS.due(inside.getName() + " is public", Modifier.isPublic(inside.getModifiers()) ? 1 : 0, 0);
+        }
+        CHECKS.due("classes at most", Math.max(12, RootFence.class.getDeclaredClasses().length + 1), 12);
     }
 
     private static void sizes(String source) {

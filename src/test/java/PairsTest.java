@@ -51,7 +51,7 @@ public final class PairsTest {
         CHECKS.due("P beyond", x.sign(5, 0, 2), Checks.NO);
         CHECKS.due("Q beyond", x.sign(0, 0, 5), Checks.NO);
         CHECKS.due("no fence", x.sign(7, 0, 2), Checks.NO);
-        // 29 by 41 is below the root of 1 by 2 by less than 1 by 2400.
+        // 29 by 41 is above the root of 1 by 2, both within (362 by 512, 363 by 512].
         RootFence near = Checks.with("2x^2-1", "41x-29", "12x-17", "31x-22");
         CHECKS.due("too near", near.sign(0, 1, 1), Checks.NO);
         CHECKS.due("far on the other side", near.sign(0, 0, 1), -1);

@@ -13,46 +13,42 @@ public final class WildTest {
         "derive 0", "shift 1 -2", "=x^2-1", "=x^3-x", "=-2x+1", "rest 0 1", " ", "0", "free 0"};
 
     public static void main(String[] args) {
-        int rounds = args.length > 0 ? Integer.parseInt(args[0]) : 120;
+        int rounds = args.length > 0 ? Integer.parseInt(args[0]) : 9000;
         for (int round = 0; round < rounds; round++) {
-            round();
+            RootFence x = new RootFence();
+            wild(x, RANDOM.nextInt(round % 8 == 0 ? 100 : 40));
+            refused(x);
+        }
+        for (int round = 0; round < rounds / 30; round++) {
+            wild(new RootFence(), 600);
         }
         CHECKS.end();
     }
 
-    private static void round() {
-        RootFence x = new RootFence();
-        for (int n = 0; n < 512; n++) {
-            String before = state(x);
+    private static void wild(RootFence x, int calls) {
+        for (int n = 0; n < calls; n++) {
             int call = RANDOM.nextInt(33);
             if (call == 31 || call == 32) {
                 Checks.feed(x, WORDS[RANDOM.nextInt(WORDS.length)]);
-                continue;
-            }
-            long answer = call(x, call);
-            boolean refused = answer == Checks.NO || answer <= -1 && call != 4 && call != 5 && call < 14;
-            boolean refusedLater = answer <= -1 && call >= 18 && call != 27 && call != 19;
-            if (refused || refusedLater) {
-                CHECKS.due("state after call " + call + " answered " + answer, state(x), before);
-            }
-            if (call == 19) {
-                CHECKS.due("the tape after reads()", x.count(1), 0);
+            } else {
+                call(x, call);
             }
         }
     }
 
-    private static String state(RootFence x) {
-        StringBuilder text = new StringBuilder(Checks.state(x));
-        for (int list = 0; list < 4; list++) {
-            for (int i = 0; i < 24 && x.get(list, i) != Checks.NO; i++) {
-                text.append(' ').append(x.get(list, i));
-            }
-            text.append(';');
+    /** One more call: if it is refused, all stands as it stood. */
+    private static void refused(RootFence x) {
+        int call = RANDOM.nextInt(31);
+        String before = Checks.wholeState(x);
+        long answer = call(x, call);
+        boolean refused = answer == Checks.NO || answer <= -1 && call != 4 && call != 5 && call < 14;
+        boolean refusedLater = answer <= -1 && call >= 18 && call != 27 && call != 19;
+        if (refused || refusedLater) {
+            CHECKS.due("what is there after call " + call + " answered " + answer, Checks.wholeState(x), before);
         }
-        for (int i = 0; i < x.count(2); i++) {
-            text.append((char) x.paper(i));
+        if (call == 19) {
+            CHECKS.due("the tape after reads()", x.count(1), 0);
         }
-        return text.toString();
     }
 
     /** Mostly numbers that are told, for the calls to come far; some at the edges, some anywhere. */
