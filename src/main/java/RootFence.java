@@ -1226,9 +1226,13 @@ public final class RootFence {
     /** FRACTIONS of a polynomial, from the least on. */
     private static final class Fractions {
         private static final int MOST = TOP_POWER;
+        /** No number up to 999 has more divisors: 840 has as many. */
+        private static final int DIVISORS = 32;
 
         private final int[] overs = new int[MOST];
         private final int[] unders = new int[MOST];
+        private final int[] footDivisors = new int[DIVISORS];
+        private final int[] headDivisors = new int[DIVISORS];
         private int size = 0;
 
         int size() {
@@ -1253,25 +1257,36 @@ public final class RootFence {
             if (lowest > 0) {
                 insert(0, 1);
             }
-            long foot = p.at(lowest);
-            long head = p.head();
-            for (int u = 1; u <= NUMBER_END; u++) {
-                if (foot % u == 0) {
-                    findUnder(p, u, head);
+            int overMany = divisors(p.at(lowest), footDivisors);
+            int underMany = divisors(p.head(), headDivisors);
+            for (int i = 0; i < overMany && i < DIVISORS; i++) {
+                for (int j = 0; j < underMany && j < DIVISORS; j++) {
+                    tryBoth(p, footDivisors[i], headDivisors[j]);
                 }
             }
         }
 
-        private void findUnder(Poly p, int u, long head) {
-            for (int v = 1; v <= NUMBER_END; v++) {
-                if (head % v == 0 && gcd(u, v) == 1) {
-                    if (p.worth(u, v) == 0) {
-                        insert(u, v);
-                    }
-                    if (p.worth(-u, v) == 0) {
-                        insert(-u, v);
-                    }
+        private static int divisors(long number, int[] into) {
+            int many = 0;
+            for (int d = 1; d <= NUMBER_END && many < into.length; d++) {
+                if (number % d == 0) {
+                    into[many] = d;
+                    many++;
                 }
+            }
+            return many;
+        }
+
+        /** u by v and its minus. */
+        private void tryBoth(Poly p, int u, int v) {
+            if (gcd(u, v) != 1) {
+                return;
+            }
+            if (p.worth(u, v) == 0) {
+                insert(u, v);
+            }
+            if (p.worth(-u, v) == 0) {
+                insert(-u, v);
             }
         }
 

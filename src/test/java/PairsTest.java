@@ -115,7 +115,9 @@ public final class PairsTest {
     }
 
     private static void fractions(RootFence x, int p, long... want) {
-        CHECKS.due("fractions of " + p, x.fraction(p, -1, 77), want.length / 2);
+        for (int what : new int[] {0, 1, 2, -1, 77, Integer.MIN_VALUE, Integer.MAX_VALUE}) {
+            CHECKS.due("fractions of " + p + ", what " + what, x.fraction(p, -1, what), want.length / 2);
+        }
         for (int k = 0; k < want.length / 2; k++) {
             CHECKS.due("u of " + p + ", " + k, x.fraction(p, k, 0), want[2 * k]);
             CHECKS.due("v of " + p + ", " + k, x.fraction(p, k, 1), want[2 * k + 1]);

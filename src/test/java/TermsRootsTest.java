@@ -432,6 +432,11 @@ public final class TermsRootsTest {
         fractions("998x-999", 999, 998);
         fractions("999x+998", -998, 999);
         fractions("x^2-999x", 0, 1, 999, 1);
+        fractions("840x^2+2x-783", -29, 30, 27, 28);
+        fractions("783x^2-2x-840", -30, 29, 28, 27);
+        fractions("840x-839", 839, 840);
+        fractions("839x+840", -840, 839);
+        fractions("x-840", 840, 1);
         CHECKS.sentence("FRACTIONS: ROOTS that are fractions");
         fractions("x^2-2");
         fractions("x^3-2x", 0, 1);
