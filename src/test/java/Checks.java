@@ -1,3 +1,5 @@
+import java.lang.reflect.Method;
+
 /** What the tests share: answers compared, wrong ones told, an end with exit code 1. */
 final class Checks {
     static final int BAD = -1, NOT = -2, FULL = -3, STATE = -6;
@@ -42,6 +44,24 @@ final class Checks {
         String before = wholeState(x);
         due(call, asks.answer(), want);
         due(call + ", what is there after it", wholeState(x), before);
+    }
+
+    /** A call by its name, of whatever object has such a one. */
+    static long call(Object of, String name, int... numbers) {
+        for (Method method : of.getClass().getDeclaredMethods()) {
+            if (method.getName().equals(name) && method.getParameterCount() == numbers.length) {
+                Object[] arguments = new Object[numbers.length];
+                for (int i = 0; i < numbers.length; i++) {
+                    arguments[i] = numbers[i];
+                }
+                try {
+                    return ((Number) method.invoke(of, arguments)).longValue();
+                } catch (ReflectiveOperationException e) {
+                    throw new IllegalStateException(name, e);
+                }
+            }
+        }
+        throw new IllegalStateException("no call " + name);
     }
 
     void end() {

@@ -24,6 +24,7 @@ public final class LanguageTest {
         words(code);
         face(code);
         sizes(source);
+        noneMadeInCalls(code);
         CHECKS.end();
     }
 
@@ -76,6 +77,13 @@ public final class LanguageTest {
             CHECKS.due(inside.getName() + " is public", Modifier.isPublic(inside.getModifiers()) ? 1 : 0, 0);
         }
         CHECKS.due("classes at most", Math.max(12, RootFence.class.getDeclaredClasses().length + 1), 12);
+    }
+
+    /** All calls of a run live in one room: what is made is made with the object, in fields and in constructors. */
+    private static void noneMadeInCalls(String code) {
+        int inFields = many("(?m)^ {4,8}private (final )?[\\w\\[\\]]+ \\w+ = new \\w+[\\[(]", code);
+        int inConstructors = many("(?m)^ {8}[A-Z]\\w*\\([^)]*\\) \\{(\n {12,}[^\n]*)*\n {16}\\w+\\[i\\] = new ", code);
+        CHECKS.due("new in fields and constructors", inFields + inConstructors, many("\\bnew\\b", code));
     }
 
     private static void sizes(String source) {

@@ -1,6 +1,7 @@
 import java.math.BigInteger;
 import java.util.ArrayList;
 import java.util.Arrays;
+import java.util.Collections;
 import java.util.List;
 
 /**
@@ -104,6 +105,23 @@ final class Model {
         return cut(q);
     }
 
+    /** Another one for x. */
+    static List<BigInteger> put(List<BigInteger> p, List<BigInteger> q) {
+        List<BigInteger> sum = poly();
+        List<BigInteger> raised = poly(1);
+        for (BigInteger number : p) {
+            sum = plus(sum, scaled(raised, number, 0));
+            raised = times(raised, q);
+        }
+        return sum;
+    }
+
+    static List<BigInteger> reversed(List<BigInteger> p) {
+        List<BigInteger> turned = new ArrayList<>(p);
+        Collections.reverse(turned);
+        return cut(turned);
+    }
+
     static List<BigInteger> remainder(List<BigInteger> p, List<BigInteger> q) {
         List<BigInteger> r = cleaned(p);
         while (!r.isEmpty() && degree(r) >= degree(q)) {
@@ -178,15 +196,20 @@ final class Model {
     }
 
     static int signAt(List<BigInteger> p, long u, long v) {
+        return valueAt(p, u, v).signum();
+    }
+
+    /** The value at u by v times v to the degree. */
+    static BigInteger valueAt(List<BigInteger> p, long u, long v) {
         BigInteger sum = BigInteger.ZERO;
         for (int i = 0; i < p.size(); i++) {
             BigInteger term = BigInteger.valueOf(u).pow(i).multiply(BigInteger.valueOf(v).pow(degree(p) - i));
             sum = sum.add(term.multiply(p.get(i)));
         }
-        return sum.signum();
+        return sum;
     }
 
-    private static int turns(List<Integer> signs) {
+    static int turns(List<Integer> signs) {
         int many = 0;
         int last = 0;
         for (int sign : signs) {

@@ -171,7 +171,7 @@ public final class ModelTest {
         making(x, 2, 1, Model.plus(p, Model.minus(q)), name);
         making(x, 3, 1, made(() -> Model.common(p, q)), name);
         making(x, 4, 1, Model.derived(p), name);
-        making(x, 5, 1, put(p, Model.poly(0, -1)), name);
+        making(x, 5, 1, Model.put(p, Model.poly(0, -1)), name);
         making(x, 9, 1, made(() -> Model.free(p)), name);
         making(x, 10, 1, made(() -> Model.remainder(p, q)), name);
         for (int m = 1; m <= 4; m++) {
@@ -179,24 +179,9 @@ public final class ModelTest {
             making(x, 11, m, made(() -> Model.part(p, of)), name);
         }
         int k = RANDOM.nextInt(19) - 9;
-        making(x, 6, k, put(p, Model.poly(k, 1)), name);
-        making(x, 7, k, put(p, Model.poly(0, k)), name);
-        List<BigInteger> turned = new ArrayList<>();
-        for (int i = p.size() - 1; i >= 0; i--) {
-            turned.add(p.get(i));
-        }
-        making(x, 8, 1, Model.plus(turned, Model.poly()), name);
-    }
-
-    /** Another one for x. */
-    private static List<BigInteger> put(List<BigInteger> p, List<BigInteger> q) {
-        List<BigInteger> sum = Model.poly();
-        List<BigInteger> raised = Model.poly(1);
-        for (BigInteger number : p) {
-            sum = Model.plus(sum, Model.scaled(raised, number, 0));
-            raised = Model.times(raised, q);
-        }
-        return sum;
+        making(x, 6, k, Model.put(p, Model.poly(k, 1)), name);
+        making(x, 7, k, Model.put(p, Model.poly(0, k)), name);
+        making(x, 8, 1, Model.reversed(p), name);
     }
 
     private static void pairs(RootFence x, List<BigInteger> p, List<BigInteger> q, String name) {
